@@ -43,7 +43,7 @@ public final class SnoopingCores {
     private static final int STORE = 10;
     private static final int SWAP = 11;
 
-    private final Store store;
+    private final Memory mainMemory;
     private final Core[] cores;
     private final Bus bus;
     private boolean stepped = false;
@@ -52,12 +52,12 @@ public final class SnoopingCores {
         int slotCount = limited(slots, 1, MOST_SLOTS);
         int lineWidth = limited(width, 1, MOST_WIDTH);
         int codeSize = limited(code, 1, MOST_CODE);
-        store = new Store(lineWidth, limited(memory, lineWidth, MOST_MEMORY));
+        mainMemory = new Memory(lineWidth, limited(memory, lineWidth, MOST_MEMORY));
         cores = new Core[limited(cpus, 1, MOST_CPUS)];
         for (int i = 0; i < cores.length; i++) {
-            cores[i] = new Core(i, slotCount, codeSize, store);
+            cores[i] = new Core(i, slotCount, codeSize, mainMemory);
         }
-        bus = new Bus(cores, store);
+        bus = new Bus(cores, mainMemory);
     }
 
     public boolean load(int cpu, int place, int word) {
@@ -69,10 +69,10 @@ public final class SnoopingCores {
     }
 
     public boolean poke(int address, int word) {
-        if (stepped || !store.has(address)) {
+        if (stepped || !mainMemory.has(address)) {
             return false;
         }
-        store.words[address] = word;
+        mainMemory.words[address] = word;
         return true;
     }
 
@@ -110,7 +110,7 @@ public final class SnoopingCores {
         if (emptied.state == INVALID) {
             return 0;
         }
-        store.giveUp(emptied);
+        mainMemory.giveUp(emptied);
         return 1;
     }
 
@@ -143,7 +143,7 @@ public final class SnoopingCores {
     }
 
     public int slot(int cpu, int slot, int what) {
-        if (!hasSlot(cpu, slot) || !within(what, 2 + store.width)) {
+        if (!hasSlot(cpu, slot) || !within(what, 2 + mainMemory.width)) {
             return NONE;
         }
         Slot seen = cores[cpu].slots[slot];
@@ -158,21 +158,21 @@ public final class SnoopingCores {
     }
 
     public int peek(int address) {
-        if (!store.has(address)) {
+        if (!mainMemory.has(address)) {
             return 0;
         }
-        int line = store.lineOf(address);
+        int line = mainMemory.lineOf(address);
         for (int i = 0; i < cores.length; i++) {
             Slot slot = cores[i].slotFor(line);
             if (slot.holds(line) && slot.isNewerThanMemory()) {
-                return slot.words[store.offsetOf(address)];
+                return slot.words[mainMemory.offsetOf(address)];
             }
         }
-        return store.words[address];
+        return mainMemory.words[address];
     }
 
     public int memory(int address) {
-        return store.has(address) ? store.words[address] : 0;
+        return mainMemory.has(address) ? mainMemory.words[address] : 0;
     }
 
     public int state(int what) {
@@ -186,7 +186,7 @@ public final class SnoopingCores {
             case 3:
                 return bus.line;
             default:
-                return what > 3 && what <= 3 + SUPPLY ? bus.phasesDone[what - 4] : NONE;
+                return within(what - 4, SUPPLY) ? bus.phasesDone[what - 4] : NONE;
         }
     }
 
@@ -207,11 +207,11 @@ public final class SnoopingCores {
     }
 
     /** The memory, which alone knows how its words make lines. */
-    private static final class Store {
+    private static final class Memory {
         final int width;
         final int[] words;
 
-        Store(int width, int size) {
+        Memory(int width, int size) {
             this.width = width;
             this.words = new int[size - size % width];
         }
@@ -286,7 +286,7 @@ public final class SnoopingCores {
     /** One processor with its code and its cache. */
     private static final class Core {
         final int number;
-        final Store store;
+        final Memory mainMemory;
         final int[] code;
         final int[] registers = new int[REGISTERS];
         final Slot[] slots;
@@ -296,13 +296,13 @@ public final class SnoopingCores {
         int request = NO_REQUEST;
         int requestLine = NONE;
 
-        Core(int number, int slotCount, int codeSize, Store store) {
+        Core(int number, int slotCount, int codeSize, Memory mainMemory) {
             this.number = number;
-            this.store = store;
+            this.mainMemory = mainMemory;
             this.code = new int[codeSize];
             this.slots = new Slot[slotCount];
             for (int i = 0; i < slotCount; i++) {
-                slots[i] = new Slot(store.width);
+                slots[i] = new Slot(mainMemory.width);
             }
         }
 
@@ -371,15 +371,15 @@ public final class SnoopingCores {
         }
 
         private void tryAccess(int word, int address) {
-            if (!store.has(address)) {
+            if (!mainMemory.has(address)) {
                 status = TRAPPED;
                 return;
             }
-            int line = store.lineOf(address);
+            int line = mainMemory.lineOf(address);
             Slot slot = slotFor(line);
             boolean onlyReads = operation(word) == LOAD;
             if (slot.holds(line) && (onlyReads || slot.maySetWords())) {
-                access(word, slot, store.offsetOf(address));
+                access(word, slot, mainMemory.offsetOf(address));
             } else {
                 ask(onlyReads ? READ : OWN, line);
             }
@@ -450,7 +450,7 @@ public final class SnoopingCores {
     /** The bus with the transaction that goes on, if there is one. */
     private static final class Bus {
         final Core[] cores;
-        final Store store;
+        final Memory mainMemory;
         final int[] phasesDone = new int[SUPPLY];
         final int[] kept;
         boolean anotherHadIt = false;
@@ -459,10 +459,10 @@ public final class SnoopingCores {
         int request = NO_REQUEST;
         int line = NONE;
 
-        Bus(Core[] cores, Store store) {
+        Bus(Core[] cores, Memory mainMemory) {
             this.cores = cores;
-            this.store = store;
-            this.kept = new int[store.width];
+            this.mainMemory = mainMemory;
+            this.kept = new int[mainMemory.width];
         }
 
         /** Whether the transaction would go wrong if this slot of that core were emptied now. */
@@ -489,7 +489,7 @@ public final class SnoopingCores {
                     begin(core);
                     break;
                 case WRITE_BACK:
-                    store.giveUp(core.slotFor(line));
+                    mainMemory.giveUp(core.slotFor(line));
                     break;
                 case SNOOP:
                     snoop();
@@ -536,7 +536,7 @@ public final class SnoopingCores {
         }
 
         private void snoop() {
-            store.readLine(line, kept);
+            mainMemory.readLine(line, kept);
             anotherHadIt = false;
             for (int i = 0; i < cores.length; i++) {
                 Slot slot = cores[i].slotFor(line);
@@ -554,7 +554,7 @@ public final class SnoopingCores {
             if (request == READ) {
                 slot.letOthersRead();
             } else {
-                store.giveUp(slot);
+                mainMemory.giveUp(slot);
             }
         }
 

@@ -24,7 +24,7 @@ final class Rig {
 
     /** Makes word a of the memory 100 + a, for every a. */
     Rig numbered() {
-        for (int a = 0; cores.poke(a, 100 + a); a++) {
+        for (int a = 0; a < 64 && cores.poke(a, 100 + a); a++) {
             continue;
         }
         return this;
