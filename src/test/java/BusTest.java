@@ -176,8 +176,6 @@ public final class BusTest {
         rig.cores.evict(0, 0);
         rig.done(2, 1);
         states("read from the last that shared", rig, 0, Rig.INVALID, Rig.SHARED, Rig.SHARED);
-        rig.cores.evict(1, 0);
-        rig.cores.evict(2, 0);
         rig = new Rig(2, 1, 1, 4).numbered().code(0, Words.load(0, 3, 2)).code(1, Words.load(0, 3, 2));
         rig.done(0, 1);
         rig.cores.evict(0, 0);
