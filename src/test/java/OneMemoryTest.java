@@ -3,7 +3,9 @@ import java.util.Random;
 /** The document's first sentence: all of it is as if there were one memory, whose words change one at a time. */
 public final class OneMemoryTest {
     private static final Check CHECK = new Check();
-    private static final int CODE = 32;
+    private static final int CODE = 16;
+    // With what is called before and after them, so many rounds stay within 512 calls of an object.
+    private static final int MOST_ROUNDS = 120;
 
     private final Random random;
     private final int cpus;
@@ -27,12 +29,16 @@ public final class OneMemoryTest {
     }
 
     public static void main(String[] args) {
-        for (long seed = 1; seed <= 2000 && CHECK.allAsDue(); seed++) {
+        for (long seed = 1; seed <= 50000 && CHECK.allAsDue(); seed++) {
             OneMemoryTest run = new OneMemoryTest(seed);
             run.prepare();
-            for (int i = 0; i < 1000 && CHECK.allAsDue(); i++) {
-                run.doOne("seed " + seed + ", round " + i);
+            int rounds = run.random.nextInt(MOST_ROUNDS + 1);
+            for (int i = 0; i < rounds; i++) {
+                run.doOne();
             }
+            String when = "seed " + seed + " after " + rounds + " rounds";
+            run.compare(when);
+            run.cachesAgree(when);
         }
         CHECK.end();
     }
@@ -69,7 +75,7 @@ public final class OneMemoryTest {
         }
     }
 
-    private void doOne(String when) {
+    private void doOne() {
         int cpu = random.nextInt(cpus);
         int choice = random.nextInt(8);
         if (choice < 4) {
@@ -82,8 +88,6 @@ public final class OneMemoryTest {
         } else {
             cores.evict(cpu, random.nextInt(slots));
         }
-        compare(when, cpu);
-        cachesAgree(when);
     }
 
     /** The instruction on one memory, with neither caches nor a bus. */
@@ -116,9 +120,11 @@ public final class OneMemoryTest {
         }
     }
 
-    private void compare(String when, int cpu) {
-        for (int k = 0; k < 4; k++) {
-            CHECK.due(when + ": register(" + cpu + ", " + k + ")", cores.register(cpu, k), registers[cpu][k]);
+    private void compare(String when) {
+        for (int cpu = 0; cpu < cpus; cpu++) {
+            for (int k = 0; k < 4; k++) {
+                CHECK.due(when + ": register(" + cpu + ", " + k + ")", cores.register(cpu, k), registers[cpu][k]);
+            }
         }
         for (int a = 0; a < memory.length; a++) {
             CHECK.due(when + ": peek(" + a + ")", cores.peek(a), memory[a]);

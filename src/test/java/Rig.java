@@ -9,7 +9,23 @@ final class Rig {
     final SnoopingCores cores;
 
     Rig(int cpus, int slots, int width, int memory) {
-        cores = new SnoopingCores(cpus, slots, width, memory, 32);
+        this(cpus, slots, width, memory, 32);
+    }
+
+    Rig(int cpus, int slots, int width, int memory, int code) {
+        cores = new SnoopingCores(cpus, slots, width, memory, code);
+    }
+
+    /** One CPU with these registers, whose next instruction, at place 4, is this one; 8 words of memory. */
+    static Rig ready(int instruction, int r0, int r1, int r2, int r3) {
+        Rig rig = new Rig(1, 1, 4, 8);
+        int[] registers = {r0, r1, r2, r3};
+        for (int k = 0; k < 4; k++) {
+            rig.cores.poke(k, registers[k]);
+            rig.cores.load(0, k, Words.load(k, 3, k));
+        }
+        rig.cores.load(0, 4, instruction);
+        return rig.done(0, 4);
     }
 
     /** Puts a program into a CPU's code, from place 0 on. */
@@ -56,5 +72,26 @@ final class Rig {
 
     int lineOf(int cpu, int slot) {
         return cores.slot(cpu, slot, 1);
+    }
+
+    /**
+     * All that the first two CPUs, their first two slots, the first words of the memory and the bus tell of
+     * themselves: few enough calls to do it several times within the 512 that the document promises.
+     */
+    String everything() {
+        StringBuilder all = new StringBuilder();
+        for (int cpu = 0; cpu < 2; cpu++) {
+            for (int k = 0; k < 5; k++) {
+                all.append(cores.cpu(cpu, k)).append(' ').append(cores.register(cpu, k)).append(' ');
+            }
+            for (int what = 0; what < 4; what++) {
+                all.append(cores.slot(cpu, 0, what)).append(' ').append(cores.slot(cpu, 1, what)).append(' ');
+            }
+        }
+        for (int a = 0; a < 8; a++) {
+            all.append(cores.memory(a)).append(' ').append(cores.peek(a)).append(' ');
+            all.append(cores.state(a)).append(' ');
+        }
+        return all.toString();
     }
 }
